@@ -324,7 +324,7 @@ public final class OdeBench {
         final double[] z = new double[MOST_VALUES];
         double from;
         double reach;
-        double error;
+        double error; // of the last step of PAIR
 
         Trial(Equations equations, double[] values) {
             this.equations = equations;
@@ -336,7 +336,6 @@ public final class OdeBench {
         void begin(double t, double size) {
             from = t;
             reach = size;
-            error = 0.0;
             equations.slopes(from, y, k1);
         }
 

@@ -41,6 +41,7 @@ public final class PromisesTest {
         implicitFails();
         stepMidpoints();
         stepFails();
+        stepFailsFromFarOut();
         stepAtTheLimit();
         wrongMethods();
         go();
@@ -159,6 +160,10 @@ public final class PromisesTest {
         x.step(EULER);
         Check.due("system: the value went up", x.at(2), 0.5);
         Check.due("system: the watch is gone", x.events(), 0);
+        Check.due("before another system: between", x.between(2, 0.0), -0.5);
+        x.system(3);
+        Check.refuses("another system: between", NONE, () -> x.between(2, 0.0));
+        x.size(1.0, 4.0);
         x.system(1);
         x.term(0, 8.0, 0, ONE);
         x.value(0, 3.1);
@@ -456,6 +461,19 @@ public final class PromisesTest {
         }
         Check.due("IMPLICIT: not linear", s.at(0), z);
         Check.due("IMPLICIT: near the root", Math.abs(s.at(0) - 2.0) < 1.0E-12, true);
+        // the first change is 1.0E-9, so that there is no second one
+        OdeBench once = bench(1);
+        once.term(0, 64.0, 0, 0);
+        once.term(0, 1.0E-9, ONE, ONE);
+        once.size(1.0, 1.0);
+        once.step(IMPLICIT);
+        Check.due("IMPLICIT: a change of 1.0E-9 is not above", once.at(0), 1.0E-9);
+        once.system(1);
+        once.term(0, 64.0, 0, 0);
+        once.term(0, 1.1E-9, ONE, ONE);
+        once.size(1.0, 1.0);
+        once.step(IMPLICIT);
+        Check.due("IMPLICIT: a change of 1.1E-9 is above", once.at(0) > 1.1E-9, true);
     }
 
     private static void implicitExchangesRows() {
@@ -494,13 +512,19 @@ public final class PromisesTest {
         Check.refuses("IMPLICIT: nothing to divide by", FAILS, () -> flat.step(IMPLICIT));
         Check.due("IMPLICIT: counted", flat.steps(true), 1);
         Check.due("IMPLICIT: the time stays", flat.time(), 0.0);
-        // 1.0 - H * 8.0 is 2^-30, just below 1.0E-9, and then 2^-29, just above
         OdeBench below = growth(8.0, 0.0);
-        below.size(0.125 - 0x1p-33, 1.0);
+        below.size((1.0 - 0.999999E-9) / 8.0, 1.0);
         Check.refuses("IMPLICIT: just too flat", FAILS, () -> below.step(IMPLICIT));
         OdeBench above = growth(8.0, 0.0);
-        above.size(0.125 - 0x1p-32, 1.0);
+        above.size((1.0 - 1.000001E-9) / 8.0, 1.0);
         Check.fine("IMPLICIT: just steep enough", () -> above.step(IMPLICIT));
+        // M has the rows 0, -1 and 1.0E-9, 1
+        OdeBench edge = bench(2);
+        edge.term(0, 1.0, 0, ONE);
+        edge.term(0, 1.0, 1, ONE);
+        edge.term(1, -1.0E-9, 0, ONE);
+        edge.size(1.0, 1.0);
+        Check.fine("IMPLICIT: 1.0E-9 is not below", () -> edge.step(IMPLICIT));
         // z = 72 + z * z has no root
         OdeBench rootless = bench(1);
         rootless.term(0, 8.0, 0, 0);
@@ -532,6 +556,11 @@ public final class PromisesTest {
         double f2 = 0.5 * (0.25 + 0.0 + 0.5);
         double f4 = 0.5 * ((0.5 * 0.0625 + 0.5 * 0.5625) + 0.5 * 0.25 + 0.25);
         Check.due("MIDPOINTS: times", t.at(0), f4 + (f4 - f2) / 3.0);
+        t.value(0, 0.0);
+        t.step(MIDPOINTS);
+        double g2 = 0.5 * (2.25 + 0.5 + 0.5 * 4.0);
+        double g4 = 0.5 * ((0.5 * 1.5625 + 0.5 * 3.0625) + (0.25 + 0.5 * 2.25) + 0.25 * 4.0);
+        Check.due("MIDPOINTS: later times", t.at(0), g4 + (g4 - g2) / 3.0);
     }
 
     private static void stepFails() {
@@ -555,6 +584,28 @@ public final class PromisesTest {
         down.value(0, 1000.0);
         down.size(0.5, 1.0);
         Check.refuses("step(0) far down", FAILS, () -> down.step(EULER));
+    }
+
+    // The steepest system that there can be, from as far out as a step can lead: all numbers stay finite.
+    private static void stepFailsFromFarOut() {
+        for (double c = -64.0; c <= 64.0; c += 128.0) {
+            OdeBench x = bench(1);
+            x.term(0, 64.0, 0, 0);
+            x.value(0, 1000.0);
+            x.size(0.0156, 1.0);
+            x.step(EULER);
+            for (int k = 2; k <= 10; k++) {
+                x.term(0, c, 0, 0);
+            }
+            Check.due("far out", x.at(0) > 999000.0, true);
+            x.size(4.0, 4.0);
+            for (int method = 0; method < 6; method++) {
+                int one = method;
+                Check.refuses("step(" + method + ") from far out", FAILS, () -> x.step(one));
+                Check.refuses("go(" + method + ") from far out", FAILS, () -> x.go(one, 9.0));
+            }
+            Check.due("from far out: all failed", x.steps(true), 12);
+        }
     }
 
     private static void stepAtTheLimit() {
