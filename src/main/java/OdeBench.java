@@ -245,10 +245,10 @@ public final class OdeBench {
         private static final int TIME = 3;
         private static final int ONE = 4;
 
-        final int[] owner = new int[MOST_TERMS];
-        final double[] constant = new double[MOST_TERMS];
-        final int[] left = new int[MOST_TERMS];
-        final int[] right = new int[MOST_TERMS];
+        private final int[] owner = new int[MOST_TERMS];
+        private final double[] constant = new double[MOST_TERMS];
+        private final int[] left = new int[MOST_TERMS];
+        private final int[] right = new int[MOST_TERMS];
         int n;
         int count;
 
