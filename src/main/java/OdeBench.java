@@ -303,7 +303,7 @@ public final class OdeBench {
         }
 
         private double factor(int k, double t, double[] y) {
-            if (hasValue(k)) {
+            if (k >= 0 && k < n) {
                 return y[k];
             }
             return k == TIME ? t : 1.0;
@@ -350,13 +350,17 @@ public final class OdeBench {
                     pair();
                     break;
                 case ADAMS:
-                    adams(adamsGoesOn, earlierSlope);
+                    if (adamsGoesOn) {
+                        adams(earlierSlope);
+                    } else {
+                        runge();
+                    }
                     break;
                 case IMPLICIT:
                     solved = implicit.solve(from + reach, reach, y, z);
                     break;
                 case MIDPOINTS:
-                    midpoints.reckon(this);
+                    midpoints.refine(this);
                     break;
                 case RUNGE:
                 default:
@@ -388,11 +392,7 @@ public final class OdeBench {
             error = greatest(stage, equations.n);
         }
 
-        private void adams(boolean goesOn, double[] earlierSlope) {
-            if (!goesOn) {
-                runge();
-                return;
-            }
+        private void adams(double[] earlierSlope) {
             for (int i = 0; i < equations.n; i++) {
                 stage[i] = y[i] + reach * (1.5 * k1[i] - 0.5 * earlierSlope[i]);
             }
@@ -428,7 +428,7 @@ public final class OdeBench {
             this.equations = equations;
         }
 
-        void reckon(Trial trial) {
+        void refine(Trial trial) {
             walk(2, trial, coarse);
             walk(4, trial, fine);
             for (int i = 0; i < equations.n; i++) {

@@ -8,8 +8,12 @@ import java.nio.file.Files;
 import java.nio.file.Path;
 import java.util.Arrays;
 import java.util.List;
+import java.util.Map;
 import java.util.Set;
+import java.util.TreeMap;
 import java.util.TreeSet;
+import java.util.regex.Matcher;
+import java.util.regex.Pattern;
 import java.util.stream.Collectors;
 
 /** The class's face is the document's, and its text keeps to those rules of LANGUAGE.md that a search can see. */
@@ -42,6 +46,7 @@ public final class FaceTest {
         nestedClasses();
         staticFields();
         sourceText();
+        callsGoEightDeep();
         Check.end("FaceTest");
     }
 
@@ -143,5 +148,49 @@ public final class FaceTest {
                 Check.due(where + " makes something only once", once, true);
             }
         }
+    }
+
+    /** The methods by name, each with the names of the program's methods that its lines call. */
+    private static Map<String, Set<String>> callsByName() throws IOException {
+        Pattern header = Pattern.compile("^( +)(?:(?:public|private|static) )*[a-z]\\w*(?:\\[\\])* (\\w+)\\(.*\\{$");
+        Map<String, Set<String>> calls = new TreeMap<>();
+        String name = null;
+        String end = "";
+        for (String line : Files.readAllLines(PROGRAM, StandardCharsets.UTF_8)) {
+            Matcher begins = header.matcher(line);
+            if (name == null && begins.matches()) {
+                name = begins.group(2);
+                end = begins.group(1) + "}";
+                calls.putIfAbsent(name, new TreeSet<>());
+            } else if (line.equals(end)) {
+                name = null;
+            } else if (name != null) {
+                Matcher called = Pattern.compile("\\b(\\w+)\\(").matcher(line);
+                while (called.find()) {
+                    calls.get(name).add(called.group(1));
+                }
+            }
+        }
+        return calls;
+    }
+
+    private static int depth(String name, Map<String, Set<String>> calls, int above) {
+        int deepest = above + 1;
+        for (String one : calls.get(name)) {
+            if (calls.containsKey(one) && above < 40) {
+                deepest = Math.max(deepest, depth(one, calls, above + 1));
+            }
+        }
+        return deepest;
+    }
+
+    private static void callsGoEightDeep() throws IOException {
+        Map<String, Set<String>> calls = callsByName();
+        for (String one : FACE) {
+            String name = one.substring(0, one.indexOf('('));
+            Check.due("the text has " + name, calls.containsKey(name), true);
+            Check.due(name + " goes at most eight deep", depth(name, calls, 0) <= 8, true);
+        }
+        Check.due("steps are seen through to a term's factor", depth("go", calls, 0) >= 7, true);
     }
 }
