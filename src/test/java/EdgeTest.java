@@ -37,6 +37,7 @@ public final class EdgeTest {
         implicitEighthTime();
         goingShortens();
         goingToTheExactTime();
+        goingWithTheTimeLessT();
         betweenToTheExactTime();
         pairErrorAboveTolerance();
         pairErrorOfAnyValue();
@@ -487,6 +488,20 @@ public final class EdgeTest {
             y.size(one[1] - one[0], 1.0);
             y.step(EULER);
             Check.due("a step alone", y.time(), one[0] + (one[1] - one[0]));
+        }
+    }
+
+    // "H is h, but the time less t, when t + h is above the time": an h that only happens to be that number is h
+    private static void goingWithTheTimeLessT() {
+        Check.due("0.7 is the time less t", 0.9 - 0.2, 0.7);
+        Check.due("0.7 leads short of the time", 0.2 + 0.7 < 0.9, true);
+        for (int method = 0; method <= 5; method++) {
+            OdeBench x = bench(1);
+            x.size(0.2, 1.0);
+            x.step(EULER);
+            x.size(0.7, 1.0);
+            Check.due("h is the time less t: two steps", x.go(method, 0.9), 2);
+            Check.due("h is the time less t: there", x.time(), 0.9);
         }
     }
 
